@@ -84,14 +84,14 @@ public final class KeyStore {
         if (t == MOST_TREES) {
             throw new IllegalStateException("all TREES are there");
         }
-        trees.plant(t);
+        trees.addTree(t);
         return t;
     }
 
     public int drop(int t) throws IllegalStateException, NoSuchElementException {
         demandOpen();
         demandTree(t);
-        return trees.fell(t);
+        return trees.dropTree(t);
     }
 
     public boolean put(int t) throws IllegalStateException, NoSuchElementException, IllegalArgumentException {
@@ -899,13 +899,13 @@ public final class KeyStore {
             return MOST_TREES;
         }
 
-        void plant(int t) {
+        void addTree(int t) {
             setRoot(t, nodes.make(0));
             pages.addTo(TREE_COUNT, 1);
         }
 
         /** A TREE goes with all its pages: how many ENTRIES it had. */
-        int fell(int t) {
+        int dropTree(int t) {
             int entries = entries(t);
             int root = root(t);
             free(root, nodes.level(root));
