@@ -401,13 +401,9 @@ public final class KeyStore {
             failBytes = b;
         }
 
-        /** Makes the changed pages lasting: whether power held. */
+        /** Makes the changed pages lasting: whether power held (if not, recover forgets the plan). */
         boolean save(Pages pages) {
-            boolean held = saveOld(pages) && saveNew(pages) && endSave();
-            if (!held) {
-                failWhen = NEVER;
-            }
-            return held;
+            return saveOld(pages) && saveNew(pages) && endSave();
         }
 
         /** Writes back what the journal holds: whether power held. */

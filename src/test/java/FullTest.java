@@ -37,7 +37,7 @@ public final class FullTest {
     private static void walk(KeyStore x, int t, int entries) {
         x.key(0, 0);
         int count = 0;
-        while (x.seek(t, true)) {
+        while (count <= entries && x.seek(t, true)) {
             Expect.same("the next key", x.found(0, 0), count);
             x.take();
             count++;

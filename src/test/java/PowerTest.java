@@ -118,6 +118,44 @@ public final class PowerTest {
         isLasting(x, "undone", false);
     }
 
+    /** Where a row differs from another: its first place, or -1. */
+    private static int firstDifference(byte[] one, byte[] other) {
+        return Arrays.mismatch(one, other);
+    }
+
+    private static int lastDifference(byte[] one, byte[] other) {
+        for (int i = one.length - 1; i >= 0; i--) {
+            if (one[i] != other[i]) {
+                return i;
+            }
+        }
+        return -1;
+    }
+
+    /** What a cut write leaves: all before it, its first bytes, nothing behind. */
+    private static void whatACutLeaves() {
+        KeyStore whole = Steps.stored();
+        change(whole);
+        whole.commit();
+        byte[] after = (byte[]) Expect.inside(whole, "disk", "file");
+        for (int k = 0; k < 4; k++) {
+            for (int b = 0; b <= 33; b++) {
+                KeyStore x = Steps.stored();
+                byte[] file = (byte[]) Expect.inside(x, "disk", "file");
+                byte[] before = file.clone();
+                x.power(1, k, b);
+                change(x);
+                Expect.powerFails("cut", x::commit);
+                int reached = lastDifference(before, file);
+                int missed = firstDifference(after, file);
+                Expect.yes("all that is new comes before all that is old", reached < missed);
+                Expect.yes("nothing of the first write", k > 0 || b > 0 || reached == -1);
+                Expect.yes("bytes of write " + k, k > 0 || reached < b && missed >= b);
+                isLasting(x, "cut " + k + " " + b, false);
+            }
+        }
+    }
+
     private static void howLongItStays() {
         KeyStore x = Steps.stored();
         x.power(0, 0, 0);
@@ -210,6 +248,7 @@ public final class PowerTest {
         farWrites();
         atTheEnd();
         filesAreCut();
+        whatACutLeaves();
         howLongItStays();
         wrongWords();
         reopen();

@@ -50,11 +50,11 @@ final class Steps {
         return text.toString();
     }
 
-    /** All ENTRIES of a TREE, in their order, as key=value, and a blank behind each. */
+    /** All ENTRIES (at most 100) of a TREE, in their order, as key=value, and a blank behind each. */
     static String all(KeyStore x, int t) {
         StringBuilder text = new StringBuilder();
         x.key(0, 0);
-        while (x.seek(t, true)) {
+        for (int i = 0; i < 100 && x.seek(t, true); i++) {
             text.append(foundText(x, 0)).append('=').append(foundText(x, 1)).append(' ');
             x.take();
         }
