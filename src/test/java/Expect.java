@@ -3,6 +3,7 @@ import java.lang.reflect.Field;
 /** Counts and prints what is not as due, and reaches into a store where a test must see its files. */
 final class Expect {
     private static int wrong = 0;
+    private static String about = "";
 
     interface Call {
         long answer();
@@ -13,6 +14,11 @@ final class Expect {
     }
 
     private Expect() {
+    }
+
+    /** What is told before each fault from now on. */
+    static void about(String text) {
+        about = text;
     }
 
     static void same(String what, long got, long due) {
@@ -50,6 +56,10 @@ final class Expect {
         thrown(what, java.util.NoSuchElementException.class, act);
     }
 
+    static void noIndex(String what, Act act) {
+        thrown(what, IndexOutOfBoundsException.class, act);
+    }
+
     static void powerFails(String what, Act act) {
         thrown(what, ArithmeticException.class, act);
     }
@@ -57,7 +67,7 @@ final class Expect {
     static void fault(String text) {
         wrong++;
         if (wrong <= 50) {
-            System.out.println(text);
+            System.out.println(about + text);
         }
     }
 

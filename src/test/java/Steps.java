@@ -43,9 +43,11 @@ final class Steps {
     static String foundText(KeyStore x, int what) {
         StringBuilder text = new StringBuilder();
         int length = x.told(7 + what);
-        for (int i = 0; i < length; i++) {
-            long word = x.found(what, i);
-            text.append((char) (word >>> 8 * (Math.min(8, length - i) - 1) & 255));
+        for (int from = 0; from < length; from += 8) {
+            long word = x.found(what, from);
+            for (int i = Math.min(8, length - from) - 1; i >= 0; i--) {
+                text.append((char) (word >>> 8 * i & 255));
+            }
         }
         return text.toString();
     }
