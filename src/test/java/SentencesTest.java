@@ -76,16 +76,25 @@ public final class SentencesTest {
         Expect.yes("promise " + promise + ", a test for: " + left, left.length() == 0);
     }
 
+    /** The tests stand without the document, too; it only tells whether one is missing. */
+    private static void coverDocument(List<Sentence> all) throws IOException {
+        if (!Files.exists(DOCUMENT)) {
+            System.out.println("SentencesTest: no " + DOCUMENT + " to hold the sentences against");
+            return;
+        }
+        String document = Files.readString(DOCUMENT);
+        for (int promise = 0; promise <= PROMISES; promise++) {
+            cover(said(document, promise).replaceAll("\\s+", " "), promise, all);
+        }
+    }
+
     public static void main(String[] args) throws IOException {
         List<Sentence> all = all();
         for (Sentence sentence : all) {
             hold(sentence);
         }
         Expect.about("");
-        String document = Files.readString(DOCUMENT);
-        for (int promise = 0; promise <= PROMISES; promise++) {
-            cover(said(document, promise), promise, all);
-        }
+        coverDocument(all);
         Expect.end("SentencesTest");
     }
 }
