@@ -104,6 +104,31 @@ public final class FaceTest {
         }
     }
 
+    /** A method as the document's face has it, in the form of FACE; empty for another line. */
+    private static String written(String line) {
+        if (!line.matches(" +public \\w+ \\w+\\(.*\\).*;")) {
+            return "";
+        }
+        return line.strip().replaceAll("public |throws |java\\.util\\.|;", "")
+            .replaceAll("(\\w+) \\w+([,)])", "$1$2").replaceAll("\\((.*), (.*), (.*)\\)", "($1,$2,$3)")
+            .replaceAll("\\((.*), (.*)\\)", "($1,$2)").replace(", ", " ");
+    }
+
+    /** FACE is the document's, if it is there to be held against. */
+    private static void document() throws java.io.IOException {
+        Path document = Path.of("../shared/DOC.md");
+        if (!Files.exists(document)) {
+            System.out.println("FaceTest: no " + document + " to hold the face against");
+            return;
+        }
+        Set<String> due = new TreeSet<>();
+        for (String line : Files.readAllLines(document)) {
+            due.add(written(line));
+        }
+        due.remove("");
+        Expect.yes("the document's face " + due, due.equals(new TreeSet<>(Arrays.asList(FACE))));
+    }
+
     /** Comments are left out, as they hold words that the code may not. */
     private static void text() throws java.io.IOException {
         int imports = 0;
@@ -128,6 +153,7 @@ public final class FaceTest {
 
     public static void main(String[] args) throws java.io.IOException {
         face();
+        document();
         parts(parts());
         text();
         Expect.end("FaceTest");

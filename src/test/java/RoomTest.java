@@ -80,11 +80,10 @@ public final class RoomTest {
         Expect.yes("objects: " + seen.size(), seen.size() <= MOST_OBJECTS);
         com.sun.management.ThreadMXBean threads = (com.sun.management.ThreadMXBean) ManagementFactory.getThreadMXBean();
         run(new KeyStore());
-        long thread = Thread.currentThread().getId();
-        threads.getThreadAllocatedBytes(thread);
-        long before = threads.getThreadAllocatedBytes(thread);
+        threads.getCurrentThreadAllocatedBytes();
+        long before = threads.getCurrentThreadAllocatedBytes();
         int calls = run(x);
-        long made = threads.getThreadAllocatedBytes(thread) - before;
+        long made = threads.getCurrentThreadAllocatedBytes() - before;
         Expect.yes("bytes made by " + calls + " calls: " + made, made < 4096);
         System.out.println("RoomTest: " + elements + " elements, " + seen.size() + " objects, " + made + " bytes made by calls");
         Expect.end("RoomTest");
